@@ -18,6 +18,7 @@ public final class PromiseTest {
         promise4ChangeAndHold();
         promise5Costs();
         promise6Move();
+        promise6MovesAtFirst();
         promise6MoveOfAGradeToItself();
         promise7Run();
         promise7TakesTheFirstOfTheBest();
@@ -31,6 +32,7 @@ public final class PromiseTest {
         promise11TellIsThePlan();
         promise12Bound();
         promise13Clash();
+        promise13UsesEachHeatOnce();
         promise13LeavesAlone();
         Check.end();
     }
@@ -159,6 +161,8 @@ public final class PromiseTest {
         for (int k = 0; k < 6; k++) {
             x.heat(0, 1000, 10, 10, 10000, 1);
         }
+        // On caster 0 four heats in a row, then the fifth: it waits for 40 minutes.
+        Check.due("4 a life of 4 at first", 500, () -> x.tell(0x543210, 6));
         x.rules(1000, 40, 10, 4, 200);
         Check.due("4 a life of 4", 500, () -> x.tell(0x543210, 6));
         changes("4 a change ahead of the fifth", x, 0, 0, 0, 0, 1, 0);
@@ -266,6 +270,17 @@ public final class PromiseTest {
         y.move(2, 3, -1);
         Check.due("6 no longer allowed", 500, () -> y.tell(0x10, 2));
         Check.due("6 a move with a change costs nothing", 0, () -> y.told(3));
+    }
+
+    private static void promise6MovesAtFirst() {
+        for (int from = 0; from < 6; from++) {
+            for (int to = 0; to < 6; to++) {
+                HeatOrder x = new HeatOrder();
+                x.heat(from, 1000, 60, 50, 10000, 1);
+                x.heat(to, 1000, 60, 50, 10000, 1);
+                Check.due("6 at first from " + from + " to " + to, from == to ? 0 : 500, () -> x.tell(0x10, 2));
+            }
+        }
     }
 
     private static void promise6MoveOfAGradeToItself() {
@@ -485,6 +500,10 @@ public final class PromiseTest {
         Check.due("12 dearest", 1010000, x::bound);
         x.costs(100000, 0);
         Check.due("12 late for nothing", 0, x::bound);
+        x.heat(0, 100, 1, 1, 0, 2);
+        x.heat(0, 100, 1, 2, 0, 2);
+        x.costs(0, 1);
+        Check.due("12 of six heats", 1015, x::bound);
         HeatOrder y = planned();
         y.bound();
         plans("12 it changes nothing", y);
@@ -505,6 +524,18 @@ public final class PromiseTest {
         Check.due("13 of six heats", 0b111000, x::clash);
         x.rules(1000, 0, 0, 20, 2000);
         Check.due("13 longer waiting", 0, x::clash);
+    }
+
+    private static void promise13UsesEachHeatOnce() {
+        HeatOrder x = new HeatOrder();
+        x.rules(0, 0, 0, 4, 200);
+        x.heat(0, 1000, 1, 100, 0, 1);
+        x.heat(0, 1000, 1, 100, 0, 1);
+        x.heat(0, 1000, 1, 100, 0, 1);
+        Check.due("13 heat 0 is left out", 0b110, x::clash);
+        // Its melting gives one heat of caster 0 the time to be cast, but not two of them.
+        x.heat(0, 1000, 100, 1, 0, 2);
+        Check.due("13 with heat 3 any two of the others are good", 0b0111, x::clash);
     }
 
     private static void promise13LeavesAlone() {
