@@ -163,6 +163,7 @@ public final class PromiseTest {
         }
         // On caster 0 four heats in a row, then the fifth: it waits for 40 minutes.
         Check.due("4 a life of 4 at first", 500, () -> x.tell(0x543210, 6));
+        changes("4 a life of 4 at first", x, 0, 0, 0, 0, 1, 0);
         x.rules(1000, 40, 10, 4, 200);
         Check.due("4 a life of 4", 500, () -> x.tell(0x543210, 6));
         changes("4 a change ahead of the fifth", x, 0, 0, 0, 0, 1, 0);
