@@ -116,17 +116,17 @@ public final class EdgeTest {
     }
 
     private static void gone(String name, Asked call) {
-        HeatOrder x = heats(2, 3);
+        HeatOrder x = Plans.heats(2, 3);
         x.run(100000);
         call.on(x);
         noPlan(name + " behind a run", x);
         noPlanning(name + " behind a run", x);
-        HeatOrder y = heats(2, 3);
+        HeatOrder y = Plans.heats(2, 3);
         y.tell(0x10, 2);
         call.on(y);
         noPlan(name + " behind a telling", y);
         noPlanning(name + " behind a telling", y);
-        HeatOrder z = heats(2, 3);
+        HeatOrder z = Plans.heats(2, 3);
         z.run(0);
         call.on(z);
         noPlan(name + " behind a run in vain", z);
@@ -134,7 +134,7 @@ public final class EdgeTest {
     }
 
     private static void planIsGoneAndToldAnew() {
-        HeatOrder x = heats(2, 3);
+        HeatOrder x = Plans.heats(2, 3);
         x.run(100000);
         x.due(0, 5);
         Check.due("told anew", 15, () -> x.tell(0x10, 2));
@@ -184,11 +184,11 @@ public final class EdgeTest {
         x.heat(5, 2000, 500, 50, 10000, 3);
         x.rules(0, 500, 0, 1, 0);
         Check.due("both are first ones", 0, () -> x.tell(0x90, 2));
-        stepIs("first on caster 0", x, 0, 0, 0, 0, 60, 60, 560, 0);
-        stepIs("first on caster 1", x, 1, 1, 1, 60, 560, 560, 610, 0);
+        Plans.stepIs("first on caster 0", x, 0, 0, 0, 0, 60, 60, 560, 0);
+        Plans.stepIs("first on caster 1", x, 1, 1, 1, 60, 560, 560, 610, 0);
         Check.due("both are first ones, casters changed", 0, () -> x.tell(0x18, 2));
-        stepIs("first on caster 1", x, 0, 0, 1, 0, 60, 60, 560, 0);
-        stepIs("first on caster 0", x, 1, 1, 0, 60, 560, 560, 610, 0);
+        Plans.stepIs("first on caster 1", x, 0, 0, 1, 0, 60, 60, 560, 0);
+        Plans.stepIs("first on caster 0", x, 1, 1, 0, 60, 560, 560, 610, 0);
     }
 
     /** "with e the minute at which the caster's last heat ended": not the other caster's, nor its first one's. */
@@ -200,8 +200,8 @@ public final class EdgeTest {
         x.heat(0, 1000, 10, 10, 10000, 3);
         // Heat 1 holds caster 1 up to minute 220; caster 0 goes on: 10 .. 20, 30 .. 40, 40 .. 50.
         Check.due("caster 0 does not wait for caster 1", 0, () -> x.tell(0x3290, 4));
-        stepIs("step 2", x, 2, 2, 0, 20, 30, 30, 40, 0);
-        stepIs("step 3", x, 3, 3, 0, 30, 40, 40, 50, 0);
+        Plans.stepIs("step 2", x, 2, 2, 0, 20, 30, 30, 40, 0);
+        Plans.stepIs("step 3", x, 3, 3, 0, 30, 40, 40, 50, 0);
         Check.refused("behind heat 1 it waits too long", MEANING, () -> x.tell(0x3A90, 4));
     }
 
@@ -240,7 +240,7 @@ public final class EdgeTest {
     }
 
     private static void castersHaveTundishesOfTheirOwn() {
-        HeatOrder x = heats(6, 3);
+        HeatOrder x = Plans.heats(6, 3);
         x.rules(1000, 0, 500, 2, 200);
         Check.due("three each with a life of 2", 1000, () -> x.tell(0xD4B290, 6));
         int[] wants = {0, 0, 0, 0, 1, 1};
@@ -253,7 +253,7 @@ public final class EdgeTest {
 
     /** "for each heat that ends behind its due minute so many late minutes". */
     private static void lateIsBehindTheDueMinute() {
-        HeatOrder x = heats(2, 1);
+        HeatOrder x = Plans.heats(2, 1);
         // They end at 20 and 30.
         int[][] rows = {{20, 30, 0}, {19, 30, 1}, {20, 29, 1}, {21, 31, 0}, {19, 29, 2}, {0, 0, 50}, {0, 10000, 20},
             {10000, 0, 30}};
@@ -288,22 +288,22 @@ public final class EdgeTest {
         x.heat(0, 1000, 10, 10, 10000, 2);
         x.heat(0, 1000, 10, 10, 10000, 1);
         Check.due("all cost nothing", 0, () -> x.run(100000));
-        stepIs("by heats", x, 0, 0, 1);
-        stepIs("by heats", x, 1, 1, 0);
+        Plans.stepIs("by heats", x, 0, 0, 1);
+        Plans.stepIs("by heats", x, 1, 1, 0);
     }
 
     /** ".. then by casters". */
     private static void firstOfTheBestByCasters() {
-        HeatOrder x = heats(1, 3);
+        HeatOrder x = Plans.heats(1, 3);
         Check.due("one heat costs nothing on either caster", 0, () -> x.run(100000));
-        stepIs("by casters", x, 0, 0, 0);
+        Plans.stepIs("by casters", x, 0, 0, 0);
         // On one caster there is a change; apart they cost nothing, be it heat 0 on caster 0 or on caster 1.
         HeatOrder y = new HeatOrder();
         y.heat(0, 1000, 10, 10, 10000, 3);
         y.heat(1, 1000, 10, 10, 10000, 3);
         Check.due("apart", 0, () -> y.run(100000));
-        stepIs("apart, by casters", y, 0, 0, 0);
-        stepIs("apart, by casters", y, 1, 1, 1);
+        Plans.stepIs("apart, by casters", y, 0, 0, 0);
+        Plans.stepIs("apart, by casters", y, 1, 1, 1);
     }
 
     /** Step 0's caster comes ahead of step 1's heat. */
@@ -314,20 +314,20 @@ public final class EdgeTest {
         x.heat(0, 1000, 10, 10, 10000, 2);
         // Nothing is to be paid only when heats 0 and 2 are on caster 1 and heat 1 on caster 0 ..
         Check.due("three heats", 0, () -> x.run(100000));
-        stepIs("three heats", x, 0, 0, 1);
-        stepIs("three heats", x, 1, 1, 0);
-        stepIs("three heats", x, 2, 2, 1);
+        Plans.stepIs("three heats", x, 0, 0, 1);
+        Plans.stepIs("three heats", x, 1, 1, 0);
+        Plans.stepIs("three heats", x, 2, 2, 1);
         // .. and with the moves from 1 to 0 and from 0 to 1 for nothing all may be first on caster 0.
         x.move(0, 1, 0);
         x.move(1, 0, 0);
         Check.due("three heats, moves for nothing", 0, () -> x.run(100000));
-        stepIs("three heats, moves for nothing", x, 0, 0, 0);
-        stepIs("three heats, moves for nothing", x, 1, 1, 0);
-        stepIs("three heats, moves for nothing", x, 2, 2, 1);
+        Plans.stepIs("three heats, moves for nothing", x, 0, 0, 0);
+        Plans.stepIs("three heats, moves for nothing", x, 1, 1, 0);
+        Plans.stepIs("three heats, moves for nothing", x, 2, 2, 1);
     }
 
     private static void bestIsNotTheFirstFound() {
-        HeatOrder x = heats(6, 1);
+        HeatOrder x = Plans.heats(6, 1);
         x.rules(60, 40, 10, 20, 200);
         for (int heat = 0; heat < 6; heat++) {
             x.due(heat, 70 - 10 * heat);
@@ -336,7 +336,7 @@ public final class EdgeTest {
         Check.due("the first found is late: 0, 0, 0, 10, 30, 50", 90, () -> x.run(6));
         Check.due("the best one is in time", 0, () -> x.run(100000));
         for (int k = 0; k < 6; k++) {
-            stepIs("turned round", x, k, 5 - k, 0);
+            Plans.stepIs("turned round", x, k, 5 - k, 0);
         }
         Check.due("proved", 1, () -> x.planned(0));
     }
@@ -344,7 +344,7 @@ public final class EdgeTest {
     /** "When no node is left for a step that is good, planning ends: it is NOT PROVED then." */
     private static void noNodeAtAll() {
         for (int n = 1; n <= 6; n++) {
-            HeatOrder x = heats(n, 1);
+            HeatOrder x = Plans.heats(n, 1);
             String name = n + " heats, no node";
             Check.due(name, -1, () -> x.run(0));
             planning(name, x, 0, 0);
@@ -354,7 +354,7 @@ public final class EdgeTest {
 
     private static void justEnoughNodes() {
         for (int n = 1; n <= 6; n++) {
-            HeatOrder x = heats(n, 3);
+            HeatOrder x = Plans.heats(n, 3);
             x.rules(60, 40, 10, 20, 200);
             // The first plan takes n and costs nothing; beside each of its steps all others are given up.
             int all = n * (n + 1);
@@ -374,10 +374,10 @@ public final class EdgeTest {
     }
 
     private static void justEnoughNodesOfOneHeat() {
-        HeatOrder x = heats(1, 1);
+        HeatOrder x = Plans.heats(1, 1);
         Check.due("one heat, one caster, one node", 0, () -> x.run(1));
         planning("one heat, one caster, one node", x, 1, 1);
-        HeatOrder y = heats(1, 3);
+        HeatOrder y = Plans.heats(1, 3);
         Check.due("one heat, two casters, one node", 0, () -> y.run(1));
         planning("one heat, two casters, one node", y, 0, 1);
         Check.due("one heat, two casters, two nodes", 0, () -> y.run(2));
@@ -400,7 +400,7 @@ public final class EdgeTest {
 
     private static void aCasterThatMayNotTakesNoNode() {
         for (int casters = 1; casters <= 2; casters++) {
-            HeatOrder x = heats(2, casters);
+            HeatOrder x = Plans.heats(2, casters);
             String name = "two heats on casters " + casters;
             Check.due(name, 0, () -> x.run(3));
             planning(name, x, 1, 3);
@@ -411,7 +411,7 @@ public final class EdgeTest {
 
     /** "a plan so far is given up .. when its cost so far is not below the best one's found". */
     private static void givenUpAtTheSameCost() {
-        HeatOrder x = heats(3, 1);
+        HeatOrder x = Plans.heats(3, 1);
         x.due(0, 15);
         x.due(1, 15);
         x.due(2, 30);
@@ -430,13 +430,13 @@ public final class EdgeTest {
         // with; 1, 2: 20, with 0: 60. 2: 0; 2, 0: 30, with 1: 70; 2, 1: 30, with 0: 70.
         Check.due("three heats, given up at the same cost", 50, () -> x.run(100000));
         planning("three heats, given up at the same cost", x, 1, 14);
-        stepIs("three heats, the first one stays", x, 0, 0);
-        stepIs("three heats, the first one stays", x, 1, 1);
+        Plans.stepIs("three heats, the first one stays", x, 0, 0);
+        Plans.stepIs("three heats, the first one stays", x, 1, 1);
     }
 
     /** "each step .. is a NODE; a plan so far is given up, behind that": what is given up was a node. */
     private static void givenUpTakesANode() {
-        HeatOrder x = heats(2, 1);
+        HeatOrder x = Plans.heats(2, 1);
         Check.due("two heats", 0, () -> x.run(100000));
         planning("0, 1, and 1, which is given up", x, 1, 3);
         Check.due("no node for the one that would be given up", 0, () -> x.run(2));
@@ -444,7 +444,7 @@ public final class EdgeTest {
     }
 
     private static void goesOnBelowTheBestCost() {
-        HeatOrder x = heats(2, 1);
+        HeatOrder x = Plans.heats(2, 1);
         x.due(1, 29);
         // 0, 1 costs 1; 1 costs 0 so far, and 1, 0 costs 0.
         Check.due("one minute late with two nodes", 1, () -> x.run(2));
@@ -452,12 +452,12 @@ public final class EdgeTest {
         planning("three nodes", x, 0, 3);
         Check.due("in time with four", 0, () -> x.run(4));
         planning("four nodes", x, 1, 4);
-        stepIs("in time", x, 0, 1);
+        Plans.stepIs("in time", x, 0, 1);
     }
 
     /** Six heats of which the last one cast is a minute late, whatever the order: no step is given up ahead. */
     private static void mostNodesThatThereAre() {
-        HeatOrder x = heats(6, 3);
+        HeatOrder x = Plans.heats(6, 3);
         x.rules(60, 40, 500, 20, 200);
         for (int heat = 0; heat < 6; heat++) {
             x.due(heat, 69);
@@ -469,7 +469,7 @@ public final class EdgeTest {
         Check.due("one too few", 1, () -> x.run(ALL_STEPS - 1));
         planning("one too few", x, 0, ALL_STEPS - 1);
         for (int k = 0; k < 6; k++) {
-            stepIs("the first plan", x, k, k, 0);
+            Plans.stepIs("the first plan", x, k, k, 0);
         }
     }
 
@@ -483,7 +483,7 @@ public final class EdgeTest {
         planning("none is good, just enough nodes", x, 1, 2);
         Check.due("none is good, a node short", -1, () -> x.run(1));
         planning("none is good, a node short", x, 0, 1);
-        HeatOrder y = heats(3, 3);
+        HeatOrder y = Plans.heats(3, 3);
         y.tell(0x210, 3);
         Check.due("a told plan, then a node short of one", -1, () -> y.run(2));
         noPlan("a told plan, then a node short of one", y);
@@ -494,13 +494,13 @@ public final class EdgeTest {
     }
 
     private static void runTakesThePlaceOfAPlan() {
-        HeatOrder x = heats(2, 1);
+        HeatOrder x = Plans.heats(2, 1);
         x.due(1, 29);
         x.run(100000);
         Check.due("the best one", 0, () -> x.told(0));
         Check.due("then one that is worse", 1, () -> x.run(2));
         sums("then one that is worse", x, 1, 0, 1, 0);
-        stepIs("then one that is worse", x, 0, 0, 0, 0, 10, 10, 20, 0);
+        Plans.stepIs("then one that is worse", x, 0, 0, 0, 0, 10, 10, 20, 0);
         x.tell(0x01, 2);
         Check.due("the best one, told", 0, () -> x.told(0));
         Check.due("then a worse one again", 1, () -> x.run(3));
@@ -509,23 +509,23 @@ public final class EdgeTest {
 
     /** Promise 11: "it is the plan then: its cost". */
     private static void tellTakesThePlaceOfAPlan() {
-        HeatOrder x = heats(2, 3);
+        HeatOrder x = Plans.heats(2, 3);
         x.due(1, 29);
         x.run(100000);
         Check.due("a worse one is told", 1, () -> x.tell(0x90, 2));
         sums("a worse one is told", x, 1, 0, 1, 0);
-        stepIs("a worse one is told", x, 0, 0, 0, 0, 10, 10, 20, 0);
-        stepIs("a worse one is told", x, 1, 1, 1, 10, 20, 20, 30, 0);
+        Plans.stepIs("a worse one is told", x, 0, 0, 0, 0, 10, 10, 20, 0);
+        Plans.stepIs("a worse one is told", x, 1, 1, 1, 10, 20, 20, 30, 0);
         Check.refused("no such plan", INDEX, () -> x.tell(0x00, 2));
         sums("the told one stands", x, 1, 0, 1, 0);
         Check.due("another one is told", 0, () -> x.tell(0x89, 2));
-        stepIs("another one is told", x, 0, 1, 1, 0, 10, 10, 20, 0);
-        stepIs("another one is told", x, 1, 0, 1, 10, 20, 20, 30, 0);
+        Plans.stepIs("another one is told", x, 0, 1, 1, 0, 10, 10, 20, 0);
+        Plans.stepIs("another one is told", x, 1, 0, 1, 10, 20, 20, 30, 0);
     }
 
     /** Promise 8 speaks of planning alone: a telling neither is one nor ends the latest one. */
     private static void toldPlanIsNoPlanning() {
-        HeatOrder x = heats(2, 3);
+        HeatOrder x = Plans.heats(2, 3);
         x.tell(0x10, 2);
         noPlanning("told", x);
         x.run(3);
@@ -537,11 +537,11 @@ public final class EdgeTest {
     }
 
     private static void tellWithFewSteps() {
-        HeatOrder x = heats(1, 3);
+        HeatOrder x = Plans.heats(1, 3);
         Check.due("one step on caster 0", 0, () -> x.tell(0, 1));
-        stepIs("one step on caster 0", x, 0, 0, 0, 0, 10, 10, 20, 0);
+        Plans.stepIs("one step on caster 0", x, 0, 0, 0, 0, 10, 10, 20, 0);
         Check.due("one step on caster 1", 0, () -> x.tell(8, 1));
-        stepIs("one step on caster 1", x, 0, 0, 1, 0, 10, 10, 20, 0);
+        Plans.stepIs("one step on caster 1", x, 0, 0, 1, 0, 10, 10, 20, 0);
         Check.refused("one step, heat 1", INDEX, () -> x.tell(1, 1));
         Check.refused("one heat, no step", INDEX, () -> x.tell(0, 0));
         Check.refused("one heat, two steps", INDEX, () -> x.tell(0x10, 2));
@@ -549,13 +549,13 @@ public final class EdgeTest {
 
     /** "step k in bits 4 k .. 4 k + 3": bits 24 and above are none of six steps. */
     private static void tellWithAllBits() {
-        HeatOrder x = heats(6, 3);
+        HeatOrder x = Plans.heats(6, 3);
         x.rules(60, 40, 500, 20, 200);
         int[] above = {0, 0x01000000, 0x7F000000, 0x80000000, 0xFF000000};
         for (int bits : above) {
             Check.due("six steps on caster 1, " + Integer.toHexString(bits), 0, () -> x.tell(bits | 0x89ABCD, 6));
             for (int k = 0; k < 6; k++) {
-                stepIs("six steps on caster 1", x, k, 5 - k, 1, 10 * k, 10 * k + 10, 10 * k + 10, 10 * k + 20, 0);
+                Plans.stepIs("six steps on caster 1", x, k, 5 - k, 1, 10 * k, 10 * k + 10, 10 * k + 10, 10 * k + 20, 0);
             }
         }
         Check.refused("all bits", INDEX, () -> x.tell(-1, 6));
@@ -620,7 +620,7 @@ public final class EdgeTest {
     }
 
     private static void boundIsAsToldLast() {
-        HeatOrder x = heats(2, 3);
+        HeatOrder x = Plans.heats(2, 3);
         x.due(0, 15);
         x.due(1, 15);
         Check.due("bound", 10, x::bound);
@@ -655,7 +655,7 @@ public final class EdgeTest {
 
     /** Five heats are a sequence; a sixth one needs a tundish for which it can't wait. */
     private static void clashOfAllSix() {
-        HeatOrder x = heats(6, 1);
+        HeatOrder x = Plans.heats(6, 1);
         x.rules(39, 40, 10, 5, 200);
         Check.due("all six", 0b111111, x::clash);
         Check.due("all six: run", -1, () -> x.run(100000));
@@ -663,7 +663,7 @@ public final class EdgeTest {
         Check.due("it can wait", 0, x::clash);
         x.rules(39, 40, 10, 6, 200);
         Check.due("it needs none", 0, x::clash);
-        HeatOrder y = heats(5, 1);
+        HeatOrder y = Plans.heats(5, 1);
         y.rules(39, 40, 10, 5, 200);
         Check.due("five of them", 0, y::clash);
         y.heat(0, 1000, 10, 10, 10000, 3);
@@ -674,7 +674,7 @@ public final class EdgeTest {
     private static void clashFromHeatZeroOn() {
         int[] wants = {0, 0b110000, 0b111000, 0b111100, 0b111110, 0b111111, 0};
         for (int life = 1; life <= 6; life++) {
-            HeatOrder x = heats(6, 1);
+            HeatOrder x = Plans.heats(6, 1);
             x.rules(39, 40, 10, life, 200);
             Check.due("six heats, a life of " + life, wants[life], x::clash);
         }
@@ -704,7 +704,7 @@ public final class EdgeTest {
     }
 
     private static void clashNeedsNoPlanning() {
-        HeatOrder x = heats(6, 3);
+        HeatOrder x = Plans.heats(6, 3);
         Check.due("no planning yet", 0, x::clash);
         Check.due("no node", -1, () -> x.run(0));
         Check.due("none was found, but some plan is good", 0, x::clash);
@@ -740,15 +740,6 @@ public final class EdgeTest {
         Check.due("call 512", 70, () -> x.step(5, 5));
     }
 
-    /** Heats that none has to wait for, in any order and on any caster: step k is cast 10 k + 10 .. 10 k + 20. */
-    private static HeatOrder heats(int n, int casters) {
-        HeatOrder x = new HeatOrder();
-        for (int k = 0; k < n; k++) {
-            x.heat(0, 1000, 10, 10, 10000, casters);
-        }
-        return x;
-    }
-
     private static HeatOrder twoThatClash() {
         HeatOrder x = new HeatOrder();
         x.heat(0, 1000, 1, 500, 10000, 1);
@@ -779,13 +770,6 @@ public final class EdgeTest {
         for (int what = 0; what < wants.length; what++) {
             int asked = what;
             Check.due(name + ": told " + what, wants[what], () -> x.told(asked));
-        }
-    }
-
-    private static void stepIs(String name, HeatOrder x, int k, int... wants) {
-        for (int what = 0; what < wants.length; what++) {
-            int asked = what;
-            Check.due(name + ": step " + k + ", " + what, wants[what], () -> x.step(k, asked));
         }
     }
 }

@@ -66,7 +66,7 @@ public final class LimitTest {
                 Check.fine("due of the last one of " + n, () -> x.due(n - 1, 0));
             }
         }
-        HeatOrder six = heats(6, 1);
+        HeatOrder six = Plans.heats(6, 1);
         Check.refused("a seventh heat", TURN, () -> six.heat(0, 1000, 10, 10, 10000, 3));
         Check.refused("a seventh heat again", TURN, () -> six.heat(0, 1000, 10, 10, 10000, 3));
         Check.refused("there is no seventh then", INDEX, () -> six.due(6, 0));
@@ -102,12 +102,12 @@ public final class LimitTest {
         x.heat(0, 1000, 1, 1, 10000, 1);
         x.heat(0, 1000, 500, 500, 10000, 1);
         Check.due("short, then long: a gap of 499", 500, () -> x.tell(0x10, 2));
-        stepIs("melt 1, cast 1", x, 0, 0, 0, 0, 1, 1, 2, 0);
-        stepIs("melt 500, cast 500", x, 1, 1, 0, 1, 501, 501, 1001, 1);
+        Plans.stepIs("melt 1, cast 1", x, 0, 0, 0, 0, 1, 1, 2, 0);
+        Plans.stepIs("melt 500, cast 500", x, 1, 1, 0, 1, 501, 501, 1001, 1);
         x.rules(1000, 40, 10, 4, 200);
         Check.due("long, then short: waiting 499", 0, () -> x.tell(0x01, 2));
-        stepIs("melt 500, cast 500 first", x, 0, 1, 0, 0, 500, 500, 1000, 0);
-        stepIs("melt 1, cast 1 then", x, 1, 0, 0, 500, 501, 1000, 1001, 0);
+        Plans.stepIs("melt 500, cast 500 first", x, 0, 1, 0, 0, 500, 500, 1000, 0);
+        Plans.stepIs("melt 1, cast 1 then", x, 1, 0, 0, 500, 501, 1000, 1001, 0);
     }
 
     private static void dueLeastAndGreatest() {
@@ -151,9 +151,9 @@ public final class LimitTest {
 
     /** "Index: no such heat; range: it." */
     private static void dueBounds() {
-        indexed("due of one heat", 0, 0, v -> heats(1, 3).due(v, 0));
-        indexed("due of six heats", 0, 5, v -> heats(6, 3).due(v, 0));
-        ranged("due's minute", 0, 10000, v -> heats(1, 3).due(0, v));
+        indexed("due of one heat", 0, 0, v -> Plans.heats(1, 3).due(v, 0));
+        indexed("due of six heats", 0, 5, v -> Plans.heats(6, 3).due(v, 0));
+        ranged("due's minute", 0, 10000, v -> Plans.heats(1, 3).due(0, v));
         for (int heat : new int[] {Integer.MIN_VALUE, -1, 0, 1, 5, 6, Integer.MAX_VALUE}) {
             Check.refused("due of no heats, " + heat, INDEX, () -> new HeatOrder().due(heat, 0));
         }
@@ -202,12 +202,12 @@ public final class LimitTest {
         x.heat(1, 1000, 50, 50, 10000, 1);
         x.rules(0, 0, 10, 4, 200);
         Check.due("change 0 takes no minutes, but costs", 500, () -> x.tell(0x10, 2));
-        stepIs("change 0", x, 1, 1, 0, 60, 110, 110, 160, 1);
+        Plans.stepIs("change 0", x, 1, 1, 0, 60, 110, 110, 160, 1);
         x.rules(0, 1, 10, 4, 200);
         Check.refused("change 1 takes one", MEANING, () -> x.tell(0x10, 2));
         x.rules(500, 500, 10, 4, 200);
         Check.due("change 500", 500, () -> x.tell(0x10, 2));
-        stepIs("change 500", x, 1, 1, 0, 60, 110, 610, 660, 1);
+        Plans.stepIs("change 500", x, 1, 1, 0, 60, 110, 610, 660, 1);
         x.rules(499, 500, 10, 4, 200);
         Check.refused("change 500 is waited for", MEANING, () -> x.tell(0x10, 2));
         // m is the greater one, is the same, is the smaller one: e = 110 and the change takes 40.
@@ -221,7 +221,7 @@ public final class LimitTest {
         x.heat(0, 1000, 60, 50, 10000, 1);
         x.heat(1, 1000, melt, 50, 10000, 1);
         Check.due(name, 500, () -> x.tell(0x10, 2));
-        stepIs(name, x, 1, 1, 0, 60, 60 + melt, begin, begin + 50, change);
+        Plans.stepIs(name, x, 1, 1, 0, 60, 60 + melt, begin, begin + 50, change);
     }
 
     /** "m - e is not above the gap". */
@@ -256,7 +256,7 @@ public final class LimitTest {
     private static void lifeLeastAndGreatest() {
         int[] changesBy = {-1, 5, 2, 1, 1, 1, 0, 0};
         for (int life = 1; life <= 7; life++) {
-            HeatOrder x = heats(6, 1);
+            HeatOrder x = Plans.heats(6, 1);
             x.rules(1000, 40, 10, life, 200);
             int want = changesBy[life];
             Check.due("life " + life, 500 * want, () -> x.tell(0x543210, 6));
@@ -266,7 +266,7 @@ public final class LimitTest {
                 Check.due("life " + life + ": step " + k, k > 0 && k % life == 0 ? 1 : 0, () -> x.step(at, 6));
             }
         }
-        HeatOrder y = heats(6, 1);
+        HeatOrder y = Plans.heats(6, 1);
         y.rules(1000, 40, 10, 20, 200);
         Check.due("life 20: no change in six heats", 0, () -> y.tell(0x543210, 6));
     }
@@ -347,7 +347,7 @@ public final class LimitTest {
     /** "Plans with so many nodes (0 .. 100,000)"; "Range: nodes." */
     private static void runBounds() {
         ranged("run without heats", 0, 100000, v -> new HeatOrder().run(v));
-        ranged("run with six heats", 0, 100000, v -> heats(6, 3).run(v));
+        ranged("run with six heats", 0, 100000, v -> Plans.heats(6, 3).run(v));
     }
 
     /** "Index: no such what". */
@@ -378,10 +378,10 @@ public final class LimitTest {
     private static void tellBounds() {
         for (int heats = 0; heats <= 6; heats++) {
             int n = heats;
-            indexed("tell's n with " + n + " heats", n, n, v -> heats(n, 3).tell(0x543210, v));
+            indexed("tell's n with " + n + " heats", n, n, v -> Plans.heats(n, 3).tell(0x543210, v));
         }
         for (int heats = 1; heats <= 6; heats++) {
-            HeatOrder x = heats(heats, 3);
+            HeatOrder x = Plans.heats(heats, 3);
             int n = heats;
             int last = 4 * (n - 1);
             int ahead = 0x543210 & (1 << last) - 1;
@@ -401,15 +401,6 @@ public final class LimitTest {
         }
     }
 
-    /** Heats that none has to wait for, in any order and on any caster. */
-    private static HeatOrder heats(int n, int casters) {
-        HeatOrder x = new HeatOrder();
-        for (int k = 0; k < n; k++) {
-            x.heat(0, 1000, 10, 10, 10000, casters);
-        }
-        return x;
-    }
-
     private static HeatOrder heatsOfTwo(int melt, int cast, int nextMelt) {
         HeatOrder x = new HeatOrder();
         x.heat(0, 1000, melt, cast, 10000, 1);
@@ -418,7 +409,7 @@ public final class LimitTest {
     }
 
     private static HeatOrder ran(int n) {
-        HeatOrder x = heats(n, 3);
+        HeatOrder x = Plans.heats(n, 3);
         x.run(100000);
         return x;
     }
@@ -438,13 +429,6 @@ public final class LimitTest {
         }
         for (int value : new int[] {least, most}) {
             Check.fine(name + " " + value, () -> call.take(value));
-        }
-    }
-
-    private static void stepIs(String name, HeatOrder x, int k, int... wants) {
-        for (int what = 0; what < wants.length; what++) {
-            int asked = what;
-            Check.due(name + ": step " + k + ", " + what, wants[what], () -> x.step(k, asked));
         }
     }
 }

@@ -390,9 +390,9 @@ public final class PromiseTest {
         Check.refused("9 turn ahead of index", TURN, () -> x.step(-1, 7));
         Check.due("9 tell", 500, () -> x.tell(0x182, 3));
         // Heat 2 on caster 0, heat 0 on caster 1, heat 1 on caster 0: a change, as no move is allowed.
-        stepIs("9 step 0", x, 0, 2, 0, 0, 20, 20, 50, 0);
-        stepIs("9 step 1", x, 1, 0, 1, 20, 80, 80, 130, 0);
-        stepIs("9 step 2", x, 2, 1, 0, 80, 150, 150, 205, 1);
+        Plans.stepIs("9 step 0", x, 0, 2, 0, 0, 20, 20, 50, 0);
+        Plans.stepIs("9 step 1", x, 1, 0, 1, 20, 80, 80, 130, 0);
+        Plans.stepIs("9 step 2", x, 2, 1, 0, 80, 150, 150, 205, 1);
         Check.refused("9 step -1", INDEX, () -> x.step(-1, 0));
         Check.refused("9 step 3", INDEX, () -> x.step(3, 0));
         Check.refused("9 what -1", INDEX, () -> x.step(0, -1));
@@ -483,7 +483,7 @@ public final class PromiseTest {
         int[] heats = {0, 2, 3, 1, 4, 5};
         int[] casters = {0, 1, 0, 1, 0, 1};
         for (int k = 0; k < 6; k++) {
-            stepIs("11 six steps", y, k, heats[k], casters[k], 10 * k, 10 * k + 10, 10 * k + 10, 10 * k + 20, 0);
+            Plans.stepIs("11 six steps", y, k, heats[k], casters[k], 10 * k, 10 * k + 10, 10 * k + 10, 10 * k + 20, 0);
         }
     }
 
@@ -562,8 +562,8 @@ public final class PromiseTest {
     }
 
     private static void plans(String name, HeatOrder x) {
-        stepIs(name, x, 0, 0, 0, 0, 60, 60, 110, 0);
-        stepIs(name, x, 1, 1, 0, 60, 120, 120, 170, 0);
+        Plans.stepIs(name, x, 0, 0, 0, 0, 60, 60, 110, 0);
+        Plans.stepIs(name, x, 1, 1, 0, 60, 120, 120, 170, 0);
         Check.due(name + ": cost", 0, () -> x.told(0));
         Check.due(name + ": planning", 1, () -> x.planned(0));
     }
@@ -572,13 +572,6 @@ public final class PromiseTest {
         Check.refused(name + ": no step", TURN, () -> x.step(0, 0));
         Check.refused(name + ": no cost", TURN, () -> x.told(0));
         Check.refused(name + ": no planning", TURN, () -> x.planned(0));
-    }
-
-    private static void stepIs(String name, HeatOrder x, int k, int... wants) {
-        for (int what = 0; what < wants.length; what++) {
-            int asked = what;
-            Check.due(name + ": step " + k + ", " + what, wants[what], () -> x.step(k, asked));
-        }
     }
 
     private static void changes(String name, HeatOrder x, int... wants) {
