@@ -268,10 +268,6 @@ public final class HeatOrder {
             return moveCost[grade[heat] * GRADES + grade[next]];
         }
 
-        boolean fits(int heat, int next) {
-            return moveBetween(heat, next) != NOT_ALLOWED && Math.abs(width[heat] - width[next]) <= jump;
-        }
-
         int lateMinutes(int heat, int end) {
             return Math.max(0, end - due[heat]);
         }
@@ -343,7 +339,8 @@ public final class HeatOrder {
 
         private void castStep(int k, int before) {
             boolean follows = before != NONE;
-            boolean inSequence = follows && goesOn(before, k);
+            int move = follows ? shop.moveBetween(heat[before], heat[k]) : NOT_ALLOWED;
+            boolean inSequence = move != NOT_ALLOWED && goesOn(before, k);
             change[k] = follows && !inSequence ? 1 : 0;
             tundish[k] = inSequence ? tundish[before] + 1 : 1;
             int ready = follows ? castEnd[before] + change[k] * shop.change : 0;
@@ -351,11 +348,13 @@ public final class HeatOrder {
             castEnd[k] = castBegin[k] + shop.cast[heat[k]];
             changes[k + 1] = changes[k] + change[k];
             late[k + 1] = late[k] + shop.lateMinutes(heat[k], castEnd[k]);
-            moves[k + 1] = moves[k] + (inSequence ? shop.moveBetween(heat[before], heat[k]) : 0);
+            moves[k + 1] = moves[k] + (inSequence ? move : 0);
         }
 
+        /** Whether step k can be in sequence behind that one, were the move allowed. */
         private boolean goesOn(int before, int k) {
-            return shop.fits(heat[before], heat[k])
+            int apart = Math.abs(shop.width[heat[before]] - shop.width[heat[k]]);
+            return apart <= shop.jump
                     && tundish[before] < shop.life
                     && meltEnd[k] - castEnd[before] <= shop.gap;
         }

@@ -9,16 +9,22 @@ public final class ModelTest {
     private static final int RUNS = 600;
     private static final int CALLS = 160;
 
+    private static final String BY_ORDER = "best by order alone";
+    /** Runs that never come by these answers would prove nothing about them. */
+    private static final String[] KINDS = {"run proved", "run not proved", "run none proved", "run none not proved",
+        BY_ORDER, "tell good", "tell refused", "clash", "no clash", "moves paid", "waits for the hold",
+        "change for the move alone", "change for the jump alone", "change for the life alone",
+        "change for the gap alone", "in sequence at the jump", "in sequence at the life",
+        "in sequence at the gap"};
+
     public static void main(String[] args) {
         Map<String, Integer> met = new TreeMap<>();
         for (int run = 0; run < RUNS && Check.wrongSoFar() < 20; run++) {
             oneRun(run, met);
         }
-        // Runs that never come by these answers would prove nothing about them.
-        for (String kind : new String[] {"run proved", "run not proved", "run none proved", "run none not proved",
-            "tell good", "tell refused", "clash", "no clash", "moves paid"}) {
+        for (String kind : KINDS) {
             Check.report("answers of the kind '" + kind + "' were met", "true",
-                    Boolean.toString(met.getOrDefault(kind, 0) >= 20));
+                    Boolean.toString(met.getOrDefault(kind, 0) >= 100));
         }
         System.out.println(met);
         Check.end();
@@ -44,26 +50,34 @@ public final class ModelTest {
     }
 
     private static void note(Order order, String want, Model model, Map<String, Integer> met) {
+        boolean thrown = want.startsWith("java");
         switch (order.name) {
             case "run":
-                if (!want.startsWith("java")) {
+                if (!thrown) {
                     String none = want.equals("-1") ? "none " : "";
                     met.merge("run " + none + (model.proved ? "proved" : "not proved"), 1, Integer::sum);
+                    notePlan(model, met);
                 }
                 break;
             case "tell":
-                met.merge("tell " + (want.startsWith("java") ? "refused" : "good"), 1, Integer::sum);
+                met.merge("tell " + (thrown ? "refused" : "good"), 1, Integer::sum);
+                if (!thrown) {
+                    notePlan(model, met);
+                }
                 break;
             case "clash":
                 met.merge(want.equals("0") ? "no clash" : "clash", 1, Integer::sum);
                 break;
-            case "told":
-                if (order.args[0] == 3 && !want.startsWith("java") && !want.equals("0")) {
-                    met.merge("moves paid", 1, Integer::sum);
-                }
-                break;
             default:
                 break;
+        }
+    }
+
+    private static void notePlan(Model model, Map<String, Integer> met) {
+        if (model.plan != null) {
+            for (String kind : model.plan.kinds) {
+                met.merge(kind, 1, Integer::sum);
+            }
         }
     }
 
@@ -79,28 +93,16 @@ public final class ModelTest {
             this.args = args;
         }
 
+        /** Some runs stay with few heats, and all of them ask more than they tell. */
         static Order any(Random r, int seed, Model model) {
-            // Some runs stay with few heats, and all of them ask more than they tell.
             String name = NAMES[r.nextInt(NAMES.length)];
+            int most = 2 + seed % 6;
+            if (name.equals("heat") && model.heats.size() >= most && r.nextInt(8) != 0) {
+                return new Order("bound");
+            }
             switch (name) {
-                case "heat": {
-                    int most = 2 + seed % 6;
-                    if (model.heats.size() >= most && r.nextInt(8) != 0) {
-                        return new Order("bound");
-                    }
-                    return new Order(name, pick(r, 0, seed % 3, 0, 5), pick(r, 900, 1200, 100, 2000),
-                            pick(r, 20, 80, 1, 500), pick(r, 20, 80, 1, 500), pick(r, 0, 400, 0, 10000),
-                            pick(r, 1, 3, 1, 3));
-                }
-                case "due":
-                    return new Order(name, pick(r, 0, 5, 0, 5), pick(r, 0, 500, 0, 10000));
-                case "rules":
-                    return new Order(name, pick(r, 0, 100, 0, 1000), pick(r, 0, 60, 0, 500), pick(r, 0, 40, 0, 500),
-                            pick(r, 1, 4, 1, 20), pick(r, 0, 300, 0, 2000));
-                case "costs":
-                    return new Order(name, pick(r, 0, 300, 0, 100000), pick(r, 0, 3, 0, 1000));
-                case "move":
-                    return new Order(name, pick(r, 0, 2, 0, 5), pick(r, 0, 2, 0, 5), pick(r, -1, 100, -1, 10000));
+                case "heat": case "due": case "rules": case "costs": case "move":
+                    return seed / 6 % 2 == 0 ? usual(name, r, seed) : tight(name, r);
                 case "run":
                     return new Order(name, r.nextInt(3) == 0 ? 100000 : pick(r, 0, 300, 0, 100000));
                 case "planned":
@@ -113,6 +115,43 @@ public final class ModelTest {
                     return new Order(name, steps(r, model), r.nextInt(12) == 0 ? r.nextInt() : model.heats.size());
                 default:
                     return new Order(name);
+            }
+        }
+
+        /** Minutes, widths and costs as in a shop. */
+        private static Order usual(String name, Random r, int seed) {
+            switch (name) {
+                case "heat":
+                    return new Order(name, pick(r, 0, seed % 3, 0, 5), pick(r, 900, 1200, 100, 2000),
+                            pick(r, 20, 80, 1, 500), pick(r, 20, 80, 1, 500), pick(r, 0, 400, 0, 10000),
+                            pick(r, 1, 3, 1, 3));
+                case "due":
+                    return new Order(name, pick(r, 0, 5, 0, 5), pick(r, 0, 500, 0, 10000));
+                case "rules":
+                    return new Order(name, pick(r, 0, 100, 0, 1000), pick(r, 0, 60, 0, 500), pick(r, 0, 40, 0, 500),
+                            pick(r, 1, 4, 1, 20), pick(r, 0, 300, 0, 2000));
+                case "costs":
+                    return new Order(name, pick(r, 0, 300, 0, 100000), pick(r, 0, 3, 0, 1000));
+                default:
+                    return new Order(name, pick(r, 0, 2, 0, 5), pick(r, 0, 2, 0, 5), pick(r, -1, 100, -1, 10000));
+            }
+        }
+
+        /** Small numbers, so that minutes meet, widths lie a jump apart and plans cost the same. */
+        private static Order tight(String name, Random r) {
+            switch (name) {
+                case "heat":
+                    return new Order(name, pick(r, 0, 1, 0, 5), pick(r, 1000, 1003, 100, 2000), pick(r, 1, 4, 1, 500),
+                            pick(r, 1, 4, 1, 500), pick(r, 0, 20, 0, 10000), pick(r, 1, 3, 1, 3));
+                case "due":
+                    return new Order(name, pick(r, 0, 5, 0, 5), pick(r, 0, 20, 0, 10000));
+                case "rules":
+                    return new Order(name, pick(r, 0, 8, 0, 1000), pick(r, 0, 4, 0, 500), pick(r, 0, 4, 0, 500),
+                            pick(r, 1, 4, 1, 20), pick(r, 0, 4, 0, 2000));
+                case "costs":
+                    return new Order(name, pick(r, 0, 4, 0, 100000), pick(r, 0, 2, 0, 1000));
+                default:
+                    return new Order(name, pick(r, 0, 1, 0, 5), pick(r, 0, 1, 0, 5), pick(r, -1, 3, -1, 10000));
             }
         }
 
@@ -212,6 +251,7 @@ public final class ModelTest {
         /** A plan worked out: seven answers a step, and the sums. */
         private static final class Told {
             final List<int[]> rows = new ArrayList<>();
+            final List<String> kinds = new ArrayList<>();
             boolean good = true;
             long changes = 0;
             long late = 0;
@@ -236,7 +276,9 @@ public final class ModelTest {
                     int[] before = heats.get(last[c]);
                     Integer move = allowed.get(List.of(before[0], heat[0]));
                     int apart = before[1] > heat[1] ? before[1] - heat[1] : heat[1] - before[1];
-                    if (move != null && apart <= rules[4] && poured[c] < rules[3] && melted - ended[c] <= rules[2]) {
+                    int gap = melted - ended[c];
+                    told.kinds.addAll(kindsOf(move, apart, poured[c], gap));
+                    if (move != null && apart <= rules[4] && poured[c] < rules[3] && gap <= rules[2]) {
                         begins = Math.max(melted, ended[c]);
                         told.moves += move;
                     } else {
@@ -250,11 +292,40 @@ public final class ModelTest {
                 ended[c] = begins + heat[3];
                 told.changes += change;
                 told.late += ended[c] > heat[4] ? ended[c] - heat[4] : 0;
+                if (rules[0] > 0 && begins == melted + rules[0]) {
+                    told.kinds.add("waits for the hold");
+                }
                 told.good &= begins <= melted + rules[0];
                 told.rows.add(new int[] {step[0], c, from, melted, begins, ended[c], change});
             }
             told.cost = told.moves + told.changes * changeCost + told.late * lateCost;
             return told;
+        }
+
+        /** The one thing that stands against the sequence; or, when none does, all that nearly do. */
+        private List<String> kindsOf(Integer move, int apart, int poured, int gap) {
+            List<String> against = new ArrayList<>();
+            List<String> nearly = new ArrayList<>();
+            if (move == null) {
+                against.add("move");
+            } else if (move > 0) {
+                nearly.add("moves paid");
+            }
+            weigh("jump", apart, rules[4], against, nearly);
+            weigh("life", poured + 1, rules[3], against, nearly);
+            weigh("gap", gap, rules[2], against, nearly);
+            if (against.isEmpty()) {
+                return nearly;
+            }
+            return against.size() == 1 ? List.of("change for the " + against.get(0) + " alone") : List.of();
+        }
+
+        private static void weigh(String name, int value, int most, List<String> against, List<String> nearly) {
+            if (value > most) {
+                against.add(name);
+            } else if (value == most) {
+                nearly.add("in sequence at the " + name);
+            }
         }
 
         private static void index(boolean bad) {
@@ -350,7 +421,11 @@ public final class ModelTest {
             if (proved) {
                 Told best = null;
                 for (Told told : goodPlans((1 << heats.size()) - 1)) {
-                    best = best == null || told.cost < best.cost ? told : best;
+                    if (best == null || told.cost < best.cost) {
+                        best = told;
+                    } else if (told.cost == best.cost && !best.kinds.contains(BY_ORDER)) {
+                        best.kinds.add(BY_ORDER);
+                    }
                 }
                 plan = best;
             }
